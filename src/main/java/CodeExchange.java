@@ -75,7 +75,7 @@ public final class CodeExchange {
     /** Where the next result is made, so that the one there is stays with a finding. */
     private Row work = new Row(MOST_RESULT);
     private final Row between = new Row(MOST_READ);
-    private final Rules rules = new Rules();
+    private final Rules rules;
     private final Reader reader;
     private final Writer writer;
     private final Machine[] machines = new Machine[MACHINES];
@@ -85,11 +85,14 @@ public final class CodeExchange {
     private int findings;
 
     public CodeExchange() {
+        Rules shared = new Rules();
+        // Readers and writers hold a page at all times, so that none has to be looked at for null.
         Page blank = new Page(FEW);
-        reader = new Reader(rules, blank);
-        writer = new Writer(rules, blank);
+        rules = shared;
+        reader = new Reader(shared, blank);
+        writer = new Writer(shared, blank);
         for (int d = 0; d < MACHINES; d++) {
-            machines[d] = new Machine(rules, blank);
+            machines[d] = new Machine(shared, blank);
         }
     }
 

@@ -4,7 +4,8 @@ import java.util.Random;
 /** Random runs of calls, each answer held against PlainExchange. The seeds are fixed. */
 public final class ModelTest {
   private static final int[] BYTES = {0x0E, 0x0F, 0x1B, 0x41, 0x42, 0x43, 0x61, 0x81, 0x82, 0xC3, 0xA9,
-      0xE2, 0x82, 0xAC, 0xF0, 0x9F, 0x98, 0x80, 0xD8, 0xDC, 0x00, 0xFF, 0xED, 0xF4, 0x90, 0xC0, 0xE0};
+      0xE2, 0x82, 0xAC, 0xF0, 0x9F, 0x98, 0x80, 0xD8, 0xDC, 0x00, 0xFF, 0xED, 0xF4, 0x90, 0xC0, 0xE0,
+      0xF5, 0xF8, 0xBF};
   private static final int[] POINTS = {0, 0x41, 0x42, 0x43, 0x61, 0x62, 0x63, 63, 0x7F, 0x80, 0xE9, 0x7FF,
       0x800, 0x20AC, 0xD7FF, 0xE000, 0xFFFD, 0xFFFE, 0xFFFF, 0x10000, 0x1F600, 0x10FFFF};
   private static final int[] UNITS = {0x41, 0x42, 0x61, 0x63, 0xE9, 0x20AC, 0xD83D, 0xDE00, 0xD800, 0xDBFF,
@@ -15,7 +16,6 @@ public final class ModelTest {
 
   private static int wrong = 0;
   private static final int[] seen = new int[14];
-  private static final int[] made = new int[32];
 
   private final Random random;
   private final long seed;
@@ -92,7 +92,6 @@ public final class ModelTest {
   // ---- the calls
 
   private int page(int kind) {
-    made[0]++;
     return (int) same("page(" + kind + ")", x.page(kind), m.page(kind));
   }
 
@@ -417,6 +416,22 @@ public final class ModelTest {
     }
   }
 
+  /** Parts that often have fallbacks themselves, so that whole texts are long and may loop. */
+  private void longFallbacks() {
+    for (int i = 4 + roll(12); i >= 0; i--) {
+      int point = 0x200 + roll(12);
+      for (int k = 1 + roll(4); k > 0; k--) {
+        unitsIn(roll(4) == 0 ? of(new int[] {0x41, 0x61, 0x62}) : Math.min(point + 1 + roll(3), 0x20C), 1);
+      }
+      fallback(roll(8) == 0 ? 0x20C : point);
+      fill(1);
+    }
+    for (int i = 0; i < 3; i++) {
+      unitsIn(0x200 + roll(12), 1);
+      encode(closedPage(), 4);
+    }
+  }
+
   /** Each round doubles the units: written high first, read byte by byte. */
   private void grow() {
     int high = page(1);
@@ -506,6 +521,10 @@ public final class ModelTest {
       receive();
       return;
     }
+    changedPage(dice);
+  }
+
+  private void changedPage(int dice) {
     // A page with one byte changed, and a sum that is right again.
     java.util.List<Integer> row = new java.util.ArrayList<>(m.bytes);
     row.remove(row.size() - 1);
@@ -561,7 +580,13 @@ public final class ModelTest {
       case 13: transcode(closedPage(), near(4), closedPage(), near(5)); break;
       case 14: same("result", x.result(-1), m.result(-1)); break;
       case 15: sign(near(2), aPoint()); break;
-      case 16: someFallbacks(); break;
+      case 16:
+        if (roll(2) == 0) {
+          someFallbacks();
+        } else {
+          longFallbacks();
+        }
+        break;
       case 17: runMachine(); break;
       case 18: take(near(4)); break;
       case 19: anyRange(); break;
@@ -606,7 +631,7 @@ public final class ModelTest {
     differ(q, p, of(POINTS));
   }
 
-  private void run() {
+  private void play() {
     if (seed % 3 == 0) {
       page(1 + roll(3));
     }
@@ -636,7 +661,7 @@ public final class ModelTest {
   public static void main(String[] args) {
     int runs = args.length > 1 ? Integer.parseInt(args[1]) : 1500;
     for (int seed = 1; seed <= runs && wrong < 10; seed++) {
-      new ModelTest(seed).run();
+      new ModelTest(seed).play();
     }
     StringBuilder text = new StringBuilder("findings that were due, -1 to -13:");
     for (int i = 1; i < seen.length; i++) {

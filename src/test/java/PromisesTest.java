@@ -573,6 +573,8 @@ public final class PromisesTest {
     due("FEW cut", x.result(2), 0x41);
     due("FEW cut", x.decode(2, REFUSE), MALFORMED);
     due("place", x.told(0), 0);
+    putBytes(x, 0xF8, 0x90, 0x80, 0x80, 0xF5, 0x80, 0x80, 0x80, 0xC0, 0x80);
+    due("FEW: no such first bytes", x.faults(2), 10);
   }
 
   private static void promise14() {
@@ -653,6 +655,13 @@ public final class PromisesTest {
     putUnits(x, 'a', 'z');
     due("refused whole", x.encode(0, FALLBACK), MISSING);
     due("place", x.told(0), 1);
+    putUnits(x, 'q', 'd');
+    x.fallback('w');
+    putUnits(x, 'w');
+    due("refused whole, ahead of d", x.encode(0, FALLBACK), MISSING);
+    putUnits(x, 'x');
+    due("nothing of it is left", x.encode(0, FALLBACK), 6);
+    dueResult(x, 14, 65, 28, 0x41, 0x42, 15);
     putUnits(x, 'a', 0xDC41);
     due("a lone half", x.encode(0, FALLBACK), MISSING);
     putUnits(x, 'x');
@@ -861,10 +870,27 @@ public final class PromisesTest {
     due("along the chain", x.encode(0, FALLBACK), 2);
     putUnits(x, 1039, 'b');
     due("a loop of 40", x.fallback(1000), LOOP);
+    promise18Backwards();
     x.fill(1);
     due("one goes", x.fallback(1020), 39);
     putUnits(x, 1039);
     due("the chain is cut", x.encode(0, FALLBACK), MISSING);
+  }
+
+  private static void promise18Backwards() {
+    CodeExchange x = new CodeExchange();
+    for (int i = 0; i < 40; i++) {
+      putUnits(x, 1001 + i);
+      due("a chain, its last part last", x.fallback(1000 + i), i + 1);
+    }
+    putUnits(x, 1000);
+    due("a loop of 40", x.fallback(1039), LOOP);
+    putUnits(x, 'a', 'a', 'a', 'a');
+    due("its last part is longer now", x.fallback(1039), 40);
+    putUnits(x, 1039, 1039, 1039, 1039);
+    due("and longer", x.fallback(1038), 40);
+    putUnits(x, 1001, 'a');
+    due("too long", x.fallback(1000), LONG);
   }
 
   private static void promise19() {
@@ -1049,7 +1075,31 @@ public final class PromisesTest {
     x.feed(0, 'b');
     x.feed(0, 0xD800);
     due("a lone half", x.end(0), 3);
+    x.begin(0, 0, true, DROP);
+    x.feed(0, 0xD800);
+    due("nothing comes of it", x.end(0), 0);
+    due("ended", x.machine(0, 4), 1);
     promise21Reads(x);
+    promise21Full();
+  }
+
+  private static void promise21Full() {
+    CodeExchange x = new CodeExchange();
+    x.page(HIGH);
+    x.begin(0, 0, true, REFUSE);
+    x.begin(1, 0, true, REFUSE);
+    for (int i = 0; i < 150; i++) {
+      x.feed(0, 'a');
+      x.feed(1, 'a');
+    }
+    due("300 are not more than 300", x.end(0), 300);
+    due("ended", x.machine(0, 4), 1);
+    x.feed(1, 'a');
+    due("302", x.end(1), FULL);
+    due("goes on", x.machine(1, 4), 0);
+    x.take(1);
+    x.take(1);
+    due("300", x.end(1), 300);
   }
 
   private static void promise21Reads(CodeExchange x) {
@@ -1227,6 +1277,10 @@ public final class PromisesTest {
     due("the empty table has faults alone", x.detect(), 3);
     x.fill(0);
     due("the lowest", x.detect(), 0);
+    CodeExchange y = small();
+    repeatBytes(y, 0xFF, 1000);
+    due("nothing but faults", y.detect(), 0);
+    due("1000", y.faults(0), 1000);
   }
 
   private static void promise29() {
@@ -1355,6 +1409,7 @@ public final class PromisesTest {
     due("a half", receive(x, 1, 0, 1, 65, 0, 0xD8, 0, 1, 0), BAD);
     due("no point", receive(x, 1, 0, 1, 65, 0x11, 0, 0, 1, 0), BAD);
     due("preferred 2", receive(x, 1, 0, 1, 65, 0, 0, 97, 2, 0), BAD);
+    due("preferred 2 beside 1", receive(x, 2, 0, 1, 65, 0, 0, 97, 1, 0, 1, 66, 0, 0, 97, 2, 0), BAD);
     due("not preferred alone", receive(x, 1, 0, 1, 65, 0, 0, 97, 0, 0), BAD);
     due("cut", receive(x, 1, 0, 1, 65, 0, 0), BAD);
     due("two alike", receive(x, 2, 0, 1, 65, 0, 0, 97, 1, 0, 1, 65, 0, 0, 97, 0, 0), BAD);
