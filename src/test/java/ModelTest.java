@@ -32,6 +32,10 @@ public final class ModelTest {
 
   private long same(String call, long got, long want) {
     calls++;
+    if (calls > CALLS) {
+      // What an object answers behind its 512th call is free.
+      return want;
+    }
     log.add(call + " = " + want);
     if (want < 0) {
       seen[(int) -want]++;
@@ -150,12 +154,10 @@ public final class ModelTest {
       return;
     }
     told(8);
-    // Not counted as calls: the whole result is looked at.
-    for (int i = 0; i < answer && !failed; i++) {
-      int before = calls;
+    int looks = Math.min(answer, 8);
+    for (int k = 0; k < looks && !failed; k++) {
+      int i = answer <= 8 ? k : roll(answer);
       same("result(" + i + ")", x.result(i), m.result(i));
-      calls = before;
-      log.removeLast();
     }
     same("result(" + answer + ")", x.result(answer), m.result(answer));
   }
@@ -548,9 +550,13 @@ public final class ModelTest {
     row.add((int) sum >> 8);
     row.add((int) sum & 255);
     fill(0);
-    for (int b : row) {
-      bytesIn(b, 1);
-      calls--;
+    for (int from = 0; from < row.size(); from += 8) {
+      int n = Math.min(8, row.size() - from);
+      long w = 0;
+      for (int i = 0; i < n; i++) {
+        w = w << 8 | row.get(from + i);
+      }
+      bytesIn(w, n);
     }
     receive();
     told(1);
@@ -652,7 +658,7 @@ public final class ModelTest {
     if (seed % 2 == 0) {
       deriveAndChange();
     }
-    while (calls < CALLS && !failed) {
+    while (calls < CALLS - 1 && !failed) {
       anyCall();
     }
     told(10);

@@ -18,7 +18,7 @@ public final class PromisesTest {
     }
   }
 
-  private static void dueResult(CodeExchange x, int... want) {
+  private static void dueResult(CountedExchange x, int... want) {
     due("told(7)", x.told(7), want.length);
     for (int i = 0; i < want.length; i++) {
       due("result(" + i + ")", x.result(i), want[i]);
@@ -26,45 +26,25 @@ public final class PromisesTest {
     due("result behind the last", x.result(want.length), NONE);
   }
 
-  private static void putBytes(CodeExchange x, int... row) {
-    x.fill(0);
-    for (int b : row) {
-      x.bytesIn(b, 1);
-    }
+  private static void putBytes(CountedExchange x, int... row) {
+    Setups.putBytes(x, row);
   }
 
-  private static void putUnits(CodeExchange x, int... row) {
-    x.fill(1);
-    for (int unit : row) {
-      x.unitsIn(unit, 1);
-    }
+  private static void putUnits(CountedExchange x, int... row) {
+    Setups.putUnits(x, row);
   }
 
-  private static void repeatUnits(CodeExchange x, int unit, int many) {
-    x.fill(1);
-    long four = unit * 0x0001000100010001L;
-    for (int i = 0; i + 4 <= many; i += 4) {
-      x.unitsIn(four, 4);
-    }
-    if (many % 4 > 0) {
-      x.unitsIn(four, many % 4);
-    }
+  private static void repeatUnits(CountedExchange x, int unit, int many) {
+    Setups.putUnits(x, Setups.times(many, unit));
   }
 
-  private static void repeatBytes(CodeExchange x, int b, int many) {
-    x.fill(0);
-    long eight = b * 0x0101010101010101L;
-    for (int i = 0; i + 8 <= many; i += 8) {
-      x.bytesIn(eight, 8);
-    }
-    if (many % 8 > 0) {
-      x.bytesIn(eight, many % 8);
-    }
+  private static void repeatBytes(CountedExchange x, int b, int many) {
+    Setups.putBytes(x, Setups.times(many, b));
   }
 
   /** A closed table, page 0 of a new object: bytes 1, 2, 3 are a, b, c. */
-  private static CodeExchange small() {
-    CodeExchange x = new CodeExchange();
+  private static CountedExchange small() {
+    CountedExchange x = new CountedExchange();
     x.page(TABLE);
     x.entry(0, 0, 1, 1, 'a');
     x.entry(0, 0, 2, 1, 'b');
@@ -77,8 +57,8 @@ public final class PromisesTest {
    * A closed table, page 0, with four states: 0 has a, 1 has b, 2 has c (by a single shift from 0
    * or 1), 3 has d; sticky 14 leads 0 to 1, 15 leads 1 to 0, 16 leads 1 to 3, 17 leads 3 to 0.
    */
-  private static CodeExchange shifting() {
-    CodeExchange x = new CodeExchange();
+  private static CountedExchange shifting() {
+    CountedExchange x = new CountedExchange();
     x.page(TABLE);
     x.shift(0, 0, 14, 1, true);
     x.shift(0, 1, 15, 0, true);
@@ -95,7 +75,7 @@ public final class PromisesTest {
   }
 
   private static void promise1() {
-    CodeExchange x = new CodeExchange();
+    CountedExchange x = new CountedExchange();
     for (int what = 0; what <= 10; what++) {
       due("told(" + what + ")", x.told(what), 0);
     }
@@ -112,12 +92,12 @@ public final class PromisesTest {
     due("second sign", x.sign(1, 65), 63);
     due("fill(2)", x.fill(2), NONE);
     due("fill(3)", x.fill(3), NONE);
-    CodeExchange y = new CodeExchange();
+    CountedExchange y = new CountedExchange();
     due("sign of another object", y.sign(0, 1), 0xFFFD);
   }
 
   private static void promise2() {
-    CodeExchange x = new CodeExchange();
+    CountedExchange x = new CountedExchange();
     for (int odd : new int[] {-1, 4, Integer.MIN_VALUE, Integer.MAX_VALUE}) {
       due("page(" + odd + ")", x.page(odd), BEYOND);
     }
@@ -132,7 +112,7 @@ public final class PromisesTest {
   }
 
   private static void promise3() {
-    CodeExchange x = shifting();
+    CountedExchange x = shifting();
     due("derive(0)", x.derive(0), 1);
     due("open", x.size(1, 1), 0);
     due("entries", x.size(1, 2), 4);
@@ -160,7 +140,7 @@ public final class PromisesTest {
   }
 
   private static void promise4() {
-    CodeExchange x = new CodeExchange();
+    CountedExchange x = new CountedExchange();
     due("no page", x.entry(0, 0, 1, 1, 1), BEYOND);
     x.page(TABLE);
     x.page(HIGH);
@@ -195,7 +175,7 @@ public final class PromisesTest {
   }
 
   private static void promise4Full() {
-    CodeExchange x = new CodeExchange();
+    CountedExchange x = new CountedExchange();
     x.page(TABLE);
     for (int i = 0; i < 100; i++) {
       due("entry", x.entry(0, 0, i, 1, i), 0);
@@ -211,7 +191,7 @@ public final class PromisesTest {
   }
 
   private static void promise4Number() {
-    CodeExchange x = new CodeExchange();
+    CountedExchange x = new CountedExchange();
     x.page(TABLE);
     x.entry(0, 0, 1, 1, 'a');
     x.entry(0, 0, 2, 1, 'b');
@@ -222,7 +202,7 @@ public final class PromisesTest {
   }
 
   private static void promise5() {
-    CodeExchange x = new CodeExchange();
+    CountedExchange x = new CountedExchange();
     due("no page", x.shift(0, 0, 1, 1, true), BEYOND);
     x.page(TABLE);
     x.page(LOW);
@@ -248,7 +228,7 @@ public final class PromisesTest {
   }
 
   private static void promise6() {
-    CodeExchange x = new CodeExchange();
+    CountedExchange x = new CountedExchange();
     due("no page", x.drop(0, 0, 1, 1), BEYOND);
     x.page(TABLE);
     x.page(FEW);
@@ -283,7 +263,7 @@ public final class PromisesTest {
     due("closed", x.drop(0, 9, 1, 1), CLOSED);
   }
 
-  private static void bad(CodeExchange x, int p, int rule, int first, int second) {
+  private static void bad(CountedExchange x, int p, int rule, int first, int second) {
     due("close", x.close(p), BAD);
     due("told(1)", x.told(1), rule);
     due("told(2)", x.told(2), first);
@@ -292,7 +272,7 @@ public final class PromisesTest {
   }
 
   private static void promise7() {
-    CodeExchange x = new CodeExchange();
+    CountedExchange x = new CountedExchange();
     due("no page", x.close(0), BEYOND);
     x.page(FEW);
     due("no table", x.close(0), KIND);
@@ -305,7 +285,7 @@ public final class PromisesTest {
   }
 
   private static void promise7Clashes() {
-    CodeExchange x = new CodeExchange();
+    CountedExchange x = new CountedExchange();
     x.page(TABLE);
     x.entry(0, 0, 0x0102, 2, 'a');
     x.entry(0, 1, 0x01, 1, 'b');
@@ -331,7 +311,7 @@ public final class PromisesTest {
   }
 
   private static void promise7Points() {
-    CodeExchange x = new CodeExchange();
+    CountedExchange x = new CountedExchange();
     x.page(TABLE);
     x.entry(0, 0, 1, 1, -1 - 'z');
     x.entry(0, 0, 2, 1, 'b');
@@ -350,7 +330,7 @@ public final class PromisesTest {
   }
 
   private static void promise7States() {
-    CodeExchange x = new CodeExchange();
+    CountedExchange x = new CountedExchange();
     x.page(TABLE);
     x.shift(0, 1, 1, 2, true);
     x.shift(0, 0, 2, 3, true);
@@ -380,7 +360,7 @@ public final class PromisesTest {
   }
 
   private static void promise8() {
-    CodeExchange x = shifting();
+    CountedExchange x = shifting();
     x.page(FEW);
     int[] table = {TABLE, 1, 4, 6};
     int[] few = {FEW, 1, 0, 0};
@@ -395,7 +375,7 @@ public final class PromisesTest {
   }
 
   private static void promise9() {
-    CodeExchange x = shifting();
+    CountedExchange x = shifting();
     due("c", x.code(0, 'c'), (2L << 32) + 0x4142);
     due("d", x.code(0, 'd'), (3L << 32) + 0x434445);
     due("e", x.code(0, 'e'), NONE);
@@ -423,7 +403,7 @@ public final class PromisesTest {
       due("FEW " + row[0], x.code(4, (int) row[0]), (row[1] << 32) + row[2]);
     }
     due("FEW a half", x.code(4, 0xDFFF), BEYOND);
-    CodeExchange y = new CodeExchange();
+    CountedExchange y = new CountedExchange();
     y.page(TABLE);
     y.entry(0, 0, 1, 1, -1 - 'a');
     y.entry(0, 0, 2, 1, 'a');
@@ -432,7 +412,7 @@ public final class PromisesTest {
   }
 
   private static void promise10() {
-    CodeExchange x = new CodeExchange();
+    CountedExchange x = new CountedExchange();
     due("n 0", x.bytesIn(1, 0), BEYOND);
     due("n 9", x.bytesIn(1, 9), BEYOND);
     due("n -1", x.bytesIn(1, -1), BEYOND);
@@ -453,7 +433,7 @@ public final class PromisesTest {
   }
 
   private static void promise11() {
-    CodeExchange x = new CodeExchange();
+    CountedExchange x = new CountedExchange();
     due("n 0", x.unitsIn(1, 0), BEYOND);
     due("n 5", x.unitsIn(1, 5), BEYOND);
     due("4", x.unitsIn(0xFFFF000100020003L, 4), 4);
@@ -472,7 +452,7 @@ public final class PromisesTest {
   }
 
   private static void promise12() {
-    CodeExchange x = small();
+    CountedExchange x = small();
     due("what", x.fill(4), BEYOND);
     due("what", x.fill(-1), BEYOND);
     putBytes(x, 1, 2, 3);
@@ -508,7 +488,7 @@ public final class PromisesTest {
   }
 
   private static void promise13() {
-    CodeExchange x = shifting();
+    CountedExchange x = shifting();
     x.page(TABLE);
     due("no page", x.decode(2, 9), BEYOND);
     due("open", x.decode(1, 9), OPEN);
@@ -541,13 +521,13 @@ public final class PromisesTest {
     promise13Forms();
   }
 
-  private static int pendingShift(CodeExchange x) {
+  private static int pendingShift(CountedExchange x) {
     putBytes(x, 27, 14, 65);
     return x.decode(0, REFUSE);
   }
 
   private static void promise13Forms() {
-    CodeExchange x = new CodeExchange();
+    CountedExchange x = new CountedExchange();
     x.page(HIGH);
     x.page(LOW);
     x.page(FEW);
@@ -578,7 +558,7 @@ public final class PromisesTest {
   }
 
   private static void promise14() {
-    CodeExchange x = shifting();
+    CountedExchange x = shifting();
     x.page(TABLE);
     due("no page", x.encode(2, 9), BEYOND);
     due("open", x.encode(1, 9), OPEN);
@@ -591,7 +571,7 @@ public final class PromisesTest {
   }
 
   private static void promise14Rules() {
-    CodeExchange x = shifting();
+    CountedExchange x = shifting();
     putUnits(x, 'b', 'x', 0xD83D, 0xDE00, 0xDC41, 'b', 0xD800);
     due("refuse", x.encode(0, REFUSE), MISSING);
     due("place", x.told(0), 1);
@@ -622,7 +602,7 @@ public final class PromisesTest {
   }
 
   private static void promise14Ways() {
-    CodeExchange x = new CodeExchange();
+    CountedExchange x = new CountedExchange();
     x.page(TABLE);
     x.shift(0, 0, 200, 1, true);
     x.shift(0, 0, 100, 2, true);
@@ -642,7 +622,7 @@ public final class PromisesTest {
   }
 
   private static void promise14Fallbacks() {
-    CodeExchange x = shifting();
+    CountedExchange x = shifting();
     putUnits(x, 'b', 'c');
     x.fallback('x');
     putUnits(x, 'x', 'a', 'x');
@@ -672,38 +652,44 @@ public final class PromisesTest {
     due("an entry goes ahead of a fallback", x.encode(0, FALLBACK), 1);
   }
 
-  /** 1000 units of six bytes each, by a fallback. */
+  /** By fallbacks x is six bytes, w seven; v is six and one that is missing. */
+  private static CountedExchange sixes() {
+    CountedExchange x = small();
+    Setups.giveFallback(x, 'y', 'a', 'a', 'a');
+    Setups.giveFallback(x, 'x', 'y', 'y');
+    Setups.giveFallback(x, 'w', 'x', 'a');
+    Setups.giveFallback(x, 'v', 'x', 'q');
+    return x;
+  }
+
   private static void promise14Full() {
-    CodeExchange x = small();
-    putUnits(x, 'a', 'a', 'a');
-    x.fallback('y');
-    putUnits(x, 'y', 'y');
-    x.fallback('x');
-    putUnits(x, 'x', 'a');
-    x.fallback('w');
-    putUnits(x, 'x', 'q');
-    x.fallback('v');
+    CountedExchange x = sixes();
     repeatUnits(x, 'x', 1000);
     due("just 6000", x.encode(0, FALLBACK), 6000);
     due("the last", x.result(5999), 1);
-    repeatUnits(x, 'x', 996);
-    x.unitsIn(0x0077007800780078L, 4);
-    due("one more", x.encode(0, FALLBACK), FULL);
-    due("the result stays", x.told(7), 6000);
-    repeatUnits(x, 'x', 996);
-    x.unitsIn(0x0077007800780076L, 4);
-    due("missing behind 5995", x.encode(0, FALLBACK), MISSING);
-    due("place", x.told(0), 999);
-    repeatUnits(x, 'w', 996);
-    x.unitsIn('q', 1);
-    due("full ahead of missing", x.encode(0, FALLBACK), FULL);
-    due("place stays", x.told(0), 999);
     due("to the bytes", x.fill(2), FULL);
+    CountedExchange y = sixes();
+    y.fill(1);
+    y.encode(0, REFUSE);
+    repeatUnits(y, 'x', 996);
+    y.unitsIn(0x0077007800780078L, 4);
+    due("one more", y.encode(0, FALLBACK), FULL);
+    due("the result stays", y.told(7), 0);
+    CountedExchange z = sixes();
+    repeatUnits(z, 'x', 996);
+    z.unitsIn(0x0077007800780076L, 4);
+    due("missing behind 5995", z.encode(0, FALLBACK), MISSING);
+    due("place", z.told(0), 999);
+    CountedExchange w = sixes();
+    repeatUnits(w, 'w', 996);
+    w.unitsIn('q', 1);
+    due("full ahead of missing", w.encode(0, FALLBACK), FULL);
+    due("no place", w.told(0), 0);
   }
 
   /** d from state 0 is 14 16 and three bytes, a from state 3 is 17 and a byte: 7, so 14 for x. */
   private static void promise14EndFull() {
-    CodeExchange x = shifting();
+    CountedExchange x = shifting();
     putUnits(x, 'd', 'a');
     x.fallback('y');
     putUnits(x, 'y', 'y');
@@ -719,7 +705,7 @@ public final class PromisesTest {
   }
 
   private static void promise15() {
-    CodeExchange x = shifting();
+    CountedExchange x = shifting();
     x.page(FEW);
     x.page(TABLE);
     due("no page", x.transcode(3, 0, 0, 0), BEYOND);
@@ -766,7 +752,7 @@ public final class PromisesTest {
   }
 
   private static void promise16() {
-    CodeExchange x = small();
+    CountedExchange x = small();
     due("none", x.result(0), NONE);
     putBytes(x, 1, 2);
     x.decode(0, REFUSE);
@@ -778,7 +764,7 @@ public final class PromisesTest {
   }
 
   private static void promise17() {
-    CodeExchange x = new CodeExchange();
+    CountedExchange x = new CountedExchange();
     due("first", x.sign(0, 0x10FFFF), 0xFFFD);
     due("second", x.sign(1, 0), 63);
     due("first", x.sign(0, 1), 0x10FFFF);
@@ -793,7 +779,7 @@ public final class PromisesTest {
   }
 
   private static void promise18() {
-    CodeExchange x = new CodeExchange();
+    CountedExchange x = new CountedExchange();
     putUnits(x, 'a');
     for (int point : new int[] {-1, 0xD800, 0xDFFF, 0x110000}) {
       due("point", x.fallback(point), BEYOND);
@@ -824,7 +810,7 @@ public final class PromisesTest {
   }
 
   private static void promise18Long() {
-    CodeExchange x = new CodeExchange();
+    CountedExchange x = new CountedExchange();
     putUnits(x, 'a', 'a', 'a', 'a');
     x.fallback(200);
     putUnits(x, 200, 200, 200, 200);
@@ -849,7 +835,7 @@ public final class PromisesTest {
   }
 
   private static void promise18Full() {
-    CodeExchange x = new CodeExchange();
+    CountedExchange x = new CountedExchange();
     for (int i = 0; i < 40; i++) {
       putUnits(x, i == 0 ? 'a' : 999 + i);
       due("a chain", x.fallback(1000 + i), i + 1);
@@ -878,7 +864,7 @@ public final class PromisesTest {
   }
 
   private static void promise18Backwards() {
-    CodeExchange x = new CodeExchange();
+    CountedExchange x = new CountedExchange();
     for (int i = 0; i < 40; i++) {
       putUnits(x, 1001 + i);
       due("a chain, its last part last", x.fallback(1000 + i), i + 1);
@@ -894,7 +880,7 @@ public final class PromisesTest {
   }
 
   private static void promise19() {
-    CodeExchange x = small();
+    CountedExchange x = small();
     x.page(TABLE);
     for (int d : new int[] {-1, 4, Integer.MIN_VALUE}) {
       due("machine", x.begin(d, 0, true, 0), BEYOND);
@@ -925,7 +911,7 @@ public final class PromisesTest {
   }
 
   private static void promise20() {
-    CodeExchange x = shifting();
+    CountedExchange x = shifting();
     due("machine", x.feed(4, 0), BEYOND);
     due("machine", x.feed(-1, 0), BEYOND);
     due("not begun", x.feed(0, -1), NONE);
@@ -957,7 +943,7 @@ public final class PromisesTest {
     promise20Full();
   }
 
-  private static void promise20Writes(CodeExchange x) {
+  private static void promise20Writes(CountedExchange x) {
     due("b", x.feed(1, 'b'), 2);
     due("state", x.machine(1, 1), 1);
     due("pending", x.machine(1, 2), 4);
@@ -994,7 +980,7 @@ public final class PromisesTest {
   }
 
   private static void promise20Kept() {
-    CodeExchange x = new CodeExchange();
+    CountedExchange x = new CountedExchange();
     x.page(HIGH);
     x.page(LOW);
     x.page(FEW);
@@ -1010,7 +996,7 @@ public final class PromisesTest {
   }
 
   /** Rows of a byte, how many wait then, how many are kept then; under SIGN. */
-  private static void feedRow(CodeExchange x, int p, int[][] rows) {
+  private static void feedRow(CountedExchange x, int p, int[][] rows) {
     x.begin(0, p, false, SIGN);
     for (int i = 0; i < rows.length; i++) {
       due("page " + p + ", feed " + i, x.feed(0, rows[i][0]), rows[i][1]);
@@ -1019,7 +1005,7 @@ public final class PromisesTest {
   }
 
   private static void promise20Full() {
-    CodeExchange x = new CodeExchange();
+    CountedExchange x = new CountedExchange();
     x.page(HIGH);
     x.begin(0, 0, true, REFUSE);
     for (int i = 1; i <= 150; i++) {
@@ -1047,7 +1033,7 @@ public final class PromisesTest {
   }
 
   private static void promise21() {
-    CodeExchange x = shifting();
+    CountedExchange x = shifting();
     due("machine", x.end(4), BEYOND);
     due("machine", x.end(-1), BEYOND);
     due("not begun", x.end(0), NONE);
@@ -1084,7 +1070,7 @@ public final class PromisesTest {
   }
 
   private static void promise21Full() {
-    CodeExchange x = new CodeExchange();
+    CountedExchange x = new CountedExchange();
     x.page(HIGH);
     x.begin(0, 0, true, REFUSE);
     x.begin(1, 0, true, REFUSE);
@@ -1102,7 +1088,7 @@ public final class PromisesTest {
     due("300", x.end(1), 300);
   }
 
-  private static void promise21Reads(CodeExchange x) {
+  private static void promise21Reads(CountedExchange x) {
     x.begin(0, 0, false, REFUSE);
     x.feed(0, 14);
     x.feed(0, 28);
@@ -1137,7 +1123,7 @@ public final class PromisesTest {
   }
 
   private static void promise22() {
-    CodeExchange x = small();
+    CountedExchange x = small();
     due("machine", x.take(4), BEYOND);
     due("machine", x.take(-1), BEYOND);
     due("not begun", x.take(0), NONE);
@@ -1152,7 +1138,7 @@ public final class PromisesTest {
   }
 
   private static void promise23() {
-    CodeExchange x = small();
+    CountedExchange x = small();
     due("machine", x.machine(4, 0), BEYOND);
     due("machine", x.machine(-1, 9), BEYOND);
     due("NONE ahead of BEYOND", x.machine(0, 9), NONE);
@@ -1166,7 +1152,7 @@ public final class PromisesTest {
   }
 
   private static void promise24() {
-    CodeExchange x = small();
+    CountedExchange x = small();
     x.page(TABLE);
     x.page(FEW);
     due("no page", x.coverage(3, -1, 0), BEYOND);
@@ -1187,7 +1173,7 @@ public final class PromisesTest {
     due("halves", x.coverage(2, 0xD900, 0xDA00), 0);
     due("last", x.coverage(2, 0x10FFFF, 0x10FFFF), 1);
     due("many", x.coverage(2, 0x10000, 0x1FFFF), 65536);
-    CodeExchange y = new CodeExchange();
+    CountedExchange y = new CountedExchange();
     y.page(TABLE);
     y.entry(0, 0, 1, 1, 'a');
     y.entry(0, 0, 2, 1, -1 - 'a');
@@ -1196,7 +1182,7 @@ public final class PromisesTest {
   }
 
   private static void promise25() {
-    CodeExchange x = shifting();
+    CountedExchange x = shifting();
     x.derive(0);
     due("open", x.differ(0, 1, -1), OPEN);
     due("open", x.differ(1, 0, -1), OPEN);
@@ -1227,7 +1213,7 @@ public final class PromisesTest {
   }
 
   private static void promise26() {
-    CodeExchange x = small();
+    CountedExchange x = small();
     x.page(FEW);
     x.page(TABLE);
     due("no page", x.misread(0, 3), BEYOND);
@@ -1245,7 +1231,7 @@ public final class PromisesTest {
   }
 
   private static void promise27() {
-    CodeExchange x = small();
+    CountedExchange x = small();
     x.page(TABLE);
     due("no page", x.faults(2), BEYOND);
     due("open", x.faults(1), OPEN);
@@ -1260,7 +1246,7 @@ public final class PromisesTest {
   }
 
   private static void promise28() {
-    CodeExchange x = new CodeExchange();
+    CountedExchange x = new CountedExchange();
     x.page(TABLE);
     due("none is closed", x.detect(), NONE);
     x.page(FEW);
@@ -1277,14 +1263,14 @@ public final class PromisesTest {
     due("the empty table has faults alone", x.detect(), 3);
     x.fill(0);
     due("the lowest", x.detect(), 0);
-    CodeExchange y = small();
+    CountedExchange y = small();
     repeatBytes(y, 0xFF, 1000);
     due("nothing but faults", y.detect(), 0);
     due("1000", y.faults(0), 1000);
   }
 
   private static void promise29() {
-    CodeExchange x = shifting();
+    CountedExchange x = shifting();
     x.page(TABLE);
     due("no page", x.lengths(2, 9), BEYOND);
     due("open", x.lengths(1, 9), OPEN);
@@ -1310,7 +1296,7 @@ public final class PromisesTest {
   }
 
   private static void promise30() {
-    CodeExchange x = new CodeExchange();
+    CountedExchange x = new CountedExchange();
     due("no page", x.send(0), BEYOND);
     x.page(TABLE);
     x.page(FEW);
@@ -1341,7 +1327,7 @@ public final class PromisesTest {
   }
 
   private static void promise30Long() {
-    CodeExchange x = new CodeExchange();
+    CountedExchange x = new CountedExchange();
     x.page(TABLE);
     for (int i = 0; i < 100; i++) {
       x.entry(0, 0, 0xFF0000 + i, 3, 0x10FF00 + i);
@@ -1353,17 +1339,12 @@ public final class PromisesTest {
     due("the longest page", x.send(0), 944);
     due("fits the bytes", x.fill(2), 944);
     due("and comes in again", x.receive(), 1);
-    long sum = 0;
-    for (int i = 0; i < 942; i++) {
-      sum += (i + 1L) * x.result(i);
-    }
-    due("the sum is modulo 65521", sum > 65521 ? 1 : 0, 1);
-    due("high", x.result(942), sum % 65521 / 256);
-    due("low", x.result(943), sum % 65521 % 256);
+    due("entries", x.size(1, 2), 100);
+    due("shifts", x.size(1, 3), 10);
   }
 
   /** Bytes with their sum behind them. */
-  private static int receive(CodeExchange x, int... row) {
+  private static int receive(CountedExchange x, int... row) {
     putBytes(x, row);
     int sum = 0;
     for (int i = 0; i < row.length; i++) {
@@ -1374,7 +1355,7 @@ public final class PromisesTest {
   }
 
   private static void promise31() {
-    CodeExchange x = shifting();
+    CountedExchange x = shifting();
     int n = x.send(0);
     x.fill(2);
     due("receive", x.receive(), 1);
@@ -1399,7 +1380,7 @@ public final class PromisesTest {
   }
 
   private static void promise31Bad() {
-    CodeExchange x = new CodeExchange();
+    CountedExchange x = new CountedExchange();
     due("no count of shifts", receive(x, 1, 0), BAD);
     due("more bytes", receive(x, 0, 0, 0), BAD);
     due("no shifts' count", receive(x, 1, 0, 1, 65, 0, 0, 97, 1), BAD);
@@ -1449,7 +1430,7 @@ public final class PromisesTest {
   }
 
   private static void promise31Full() {
-    CodeExchange x = new CodeExchange();
+    CountedExchange x = new CountedExchange();
     for (int p = 0; p < 9; p++) {
       x.page(FEW);
     }
@@ -1460,7 +1441,7 @@ public final class PromisesTest {
   }
 
   private static void promise32() {
-    CodeExchange x = small();
+    CountedExchange x = small();
     due("what", x.told(11), BEYOND);
     due("what", x.told(-1), BEYOND);
     due("findings", x.told(10), 2);

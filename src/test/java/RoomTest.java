@@ -23,34 +23,35 @@ public final class RoomTest {
     }
   }
 
-  /** Ten full tables, full input, 40 fallbacks. */
+  /** Ten full tables, full input, 40 fallbacks, by 337 calls. */
   private static CodeExchange full() {
     CodeExchange x = new CodeExchange();
-    for (int p = 0; p < 10; p++) {
-      x.page(0);
-      for (int i = 0; i < 100; i++) {
-        x.entry(p, i % 2, 0x800000 + i + p, 3, 1000 + i);
-      }
-      for (int i = 0; i < 10; i++) {
-        x.shift(p, i % 2, i, 1 - i % 2, true);
-      }
-      check(x.close(p) == 0, "a full table is not closed");
+    x.page(0);
+    for (int i = 0; i < 100; i++) {
+      x.entry(0, i % 2, 0x800000 + i, 3, 1000 + i);
+    }
+    for (int i = 0; i < 10; i++) {
+      x.shift(0, i % 2, i, 1 - i % 2, true);
+    }
+    check(x.close(0) == 0, "a full table is not closed");
+    for (int p = 1; p < 10; p++) {
+      x.derive(0);
+      check(x.close(p) == 0, "a derived table is not closed");
     }
     for (int i = 0; i < 40; i++) {
       x.unitsIn(i == 0 ? 1000 : 1999 + i, 1);
       check(x.fallback(2000 + i) == i + 1, "a fallback is not taken");
     }
-    for (int i = 0; i < 250; i++) {
-      x.unitsIn(0x07F703E803E907F7L, 4);
-    }
     for (int i = 0; i < 125; i++) {
       x.bytesIn(0x8000008000018000L, 8);
     }
+    check(x.decode(0, 3) > 0, "the bytes are not read");
+    check(x.fill(3) > 0, "the units are not filled");
     return x;
   }
 
   private static void dear(CodeExchange x) {
-    for (int i = 0; i < 40; i++) {
+    for (int i = 0; i < 13; i++) {
       x.decode(i % 10, 3);
       x.encode(i % 10, 4);
       x.transcode(0, 3, i % 10, 2);
@@ -68,18 +69,32 @@ public final class RoomTest {
   }
 
   private static void room() {
-    full();
+    dear(full());
     long before = allocated();
     CodeExchange x = full();
     long made = allocated() - before;
     System.out.println("a full object takes " + made + " bytes");
     check(made < 400_000, "a full object takes much room");
-    dear(x);
     before = allocated();
     dear(x);
     made = allocated() - before;
-    System.out.println("520 dear calls take " + made + " bytes");
-    check(made < 20_000, "dear calls take much room");
+    System.out.println("169 dear calls take " + made + " bytes");
+    check(made < 10_000, "dear calls take much room");
+    badPages();
+  }
+
+  /** What is no page takes no room of its own, however often it is received. */
+  private static void badPages() {
+    CodeExchange x = new CodeExchange();
+    x.bytesIn(0x01010003L, 4);
+    check(x.receive() == -8, "a bad page came in");
+    long before = allocated();
+    for (int i = 0; i < 500; i++) {
+      check(x.receive() == -8, "a bad page came in");
+    }
+    long made = allocated() - before;
+    System.out.println("500 bad pages take " + made + " bytes");
+    check(made < 10_000, "bad pages take much room");
   }
 
   private static Object any(Class<?> type, Random random) {
@@ -97,7 +112,7 @@ public final class RoomTest {
     Random random = new Random(7);
     for (int run = 0; run < 400; run++) {
       CodeExchange x = run % 4 == 0 ? full() : new CodeExchange();
-      for (int call = 0; call < 512; call++) {
+      for (int call = 0; call < (run % 4 == 0 ? 512 - 337 : 512); call++) {
         Method[] all = CodeExchange.class.getDeclaredMethods();
         Method method = all[random.nextInt(all.length)];
         if (!Modifier.isPublic(method.getModifiers())) {
