@@ -460,8 +460,8 @@ public final class CodeExchange {
         }
         int stop = Math.min(from + 4096, LAST_POINT + 1);
         for (int point = from; point < stop; point++) {
-            // Points that neither page has are passed over at once.
-            point = Math.min(one.pointFrom(point), other.pointFrom(point));
+            // Points that neither page has are passed over at once; never back, so the loop ends.
+            point = Math.max(point, Math.min(one.pointFrom(point), other.pointFrom(point)));
             if (point < stop && writtenApart(one, other, point)) {
                 return point;
             }
